@@ -254,7 +254,7 @@ public final class PlanBounds {
     }
 
     private boolean isKept(int row) {
-        long over = table.tell(factors, factorPlace(row, 0), rights[row]);
+        long over = table.sumOfStarts(factors, factorPlace(row, 0)) - table.d * rights[row];
         if (kinds[row] == AT_LEAST) {
             return over >= 0;
         }
@@ -279,11 +279,11 @@ public final class PlanBounds {
     }
 
     private boolean bringRows() {
-        while (rowsInTable < rows) {
-            if (!bringRow(rowsInTable)) {
+        for (int r = rowsInTable; r < rows; r++) {
+            if (!bringRow(r)) {
                 return false;
             }
-            rowsInTable++;
+            rowsInTable = r + 1;
         }
         return true;
     }
@@ -361,8 +361,8 @@ public final class PlanBounds {
      * from 1 to height, those outside across from 1 to width.
      */
     private static final class Table {
-        static final int COST = 0;
-        static final int START = 0;
+        private static final int COST = 0;
+        private static final int START = 0;
         private static final int ACROSS = MOST_COLUMNS + 1;
         private static final int DOWN = MOST_LINES + 1;
 
@@ -424,14 +424,22 @@ public final class PlanBounds {
             return k == NONE ? 0 : cell(i, k);
         }
 
-        /** Tells D times a row's sum less its right side by those outside, and answers its start. */
-        private long tell(int[] factors, int from, long right) {
+        /** D times what a row's sum is by the amounts. */
+        private long sumOfStarts(int[] factors, int from) {
+            long sum = 0;
+            for (int column = 0; column < width; column++) {
+                sum += factors[from + column] * startOf(column);
+            }
+            return sum;
+        }
+
+        /** Tells D times a row's sum less its right side by those outside. */
+        private void tell(int[] factors, int from, long right) {
             Arrays.fill(told, 0);
             for (int column = 0; column < width; column++) {
                 tellColumn(column, factors[from + column]);
             }
             told[START] -= d * right;
-            return told[START];
         }
 
         private void tellColumn(int column, long factor) {
@@ -494,18 +502,27 @@ public final class PlanBounds {
             return here < there || here == there && outside[k] < outside[other];
         }
 
-        private long afterStep(int i, int k, int leaving, int entering) {
-            long crossed = cell(i, k) * cell(leaving, entering) - cell(i, entering) * cell(leaving, k);
-            return d == 0 ? 0 : crossed / d;
+        private long afterStep(long v, long p, long c, long w) {
+            // D is never 0, but no division may hang on that alone.
+            return d == 0 ? 0 : (v * p - c * w) / d;
         }
 
         private boolean stepFits(int leaving, int entering) {
-            // The places of the one that leaves and of the one that enters get numbers that are there.
+            // The other places get numbers that are in the table now, or D: these fit.
             for (int i = 0; i <= height; i++) {
-                for (int k = 0; k <= width; k++) {
-                    if (i != leaving && k != entering && !fits(afterStep(i, k, leaving, entering))) {
-                        return false;
-                    }
+                if (i != leaving && !otherFits(i, leaving, entering)) {
+                    return false;
+                }
+            }
+            return true;
+        }
+
+        private boolean otherFits(int i, int leaving, int entering) {
+            long p = cell(leaving, entering);
+            long c = cell(i, entering);
+            for (int k = 0; k <= width; k++) {
+                if (k != entering && !fits(afterStep(cell(i, k), p, c, cell(leaving, k)))) {
+                    return false;
                 }
             }
             return true;
@@ -526,9 +543,11 @@ public final class PlanBounds {
         }
 
         private void changeOther(int i, int leaving, int entering) {
+            long p = cell(leaving, entering);
+            long c = cell(i, entering);
             for (int k = 0; k <= width; k++) {
                 if (k != entering) {
-                    setCell(i, k, afterStep(i, k, leaving, entering));
+                    setCell(i, k, afterStep(cell(i, k), p, c, cell(leaving, k)));
                 }
             }
         }
@@ -552,8 +571,9 @@ public final class PlanBounds {
                 starts[insideAt] += d * by;
                 return;
             }
-            for (int i = 0; i <= height; i++) {
-                starts[i] -= numberBy(i, variable) * by;
+            int outsideAt = placeOutside(variable);
+            for (int i = 0; outsideAt != NONE && i <= height; i++) {
+                starts[i] -= cell(i, outsideAt) * by;
             }
         }
 

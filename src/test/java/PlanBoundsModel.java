@@ -516,7 +516,8 @@ public final class PlanBoundsModel {
         int weeks = random.nextInt(6) - 1;
         PlanBounds x = new PlanBounds(weeks);
         Model m = new Model(weeks);
-        int columns = random.nextInt(8);
+        boolean large = random.nextInt(40) == 0;
+        int columns = large ? 12 : random.nextInt(8);
         for (int j = 0; j < columns; j++) {
             long cost = random.nextInt(costSize);
             calls.append("column(").append(cost).append(") ");
@@ -525,7 +526,7 @@ public final class PlanBoundsModel {
             m.outside.add(j);
         }
         m.work();
-        for (int i = random.nextInt(5); i > 0; i--) {
+        for (int i = large ? 9 : random.nextInt(5); i > 0; i--) {
             addRow(x, m, random, factorSize, rightSize);
         }
         for (int turn = 0; turn < 14; turn++) {

@@ -340,6 +340,8 @@ public final class PlanBoundsPromises {
         addRow(x, 0, 1000000, 1);
         due("7 just as great", () -> x.run(9), 0);
         dueValue("7 just as great", x, 1000000000, 1);
+        due("6 just as great below 0", () -> x.right(0, -1000000), true);
+        dueValue("6 just as great below 0", x, -1000000000, 1);
 
         PlanBounds y = withColumns(1000);
         addRow(y, 0, 1000000, 2);
@@ -360,6 +362,10 @@ public final class PlanBoundsPromises {
         due("7 a smaller right side", () -> z.right(0, 400000), true);
         due("7 then it fits", () -> z.run(9), 0);
         dueValue("7 then it fits", z, 800000001, 2);
+        due("6 the cost alone is too great", () -> z.right(0, 500000), false);
+        dueValue("6 the cost stays", z, 800000001, 2);
+        due("6 one less", () -> z.right(0, 499999), true);
+        dueValue("6 one less", z, 999998001, 2);
     }
 
     private static void promise7Lines() {
