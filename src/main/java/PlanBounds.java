@@ -158,7 +158,7 @@ public final class PlanBounds {
             throw new IllegalStateException("the latest run told no contradiction");
         }
         needPart(part);
-        // Only right() and run() change the table, so the one that would leave is still the same.
+        // After a run only right() and run() change the table, so the one that would leave is still the same.
         int leaving = table.leavingPlace();
         long upper = 0;
         for (int nth = 0; nth < linesInTable(row); nth++) {
