@@ -1,7 +1,8 @@
 /**
- * Each sentence of the document that names a boundary case, quoted, with a test of its own: the value
- * at the limit and the one just beyond it, nothing there yet, all places taken, numbers at the ends of
- * their type. What stands unchanged after a refused call is looked at in PlanBoundsTwins too.
+ * Each sentence of the document that names a boundary case, with a test of its own under its words (or
+ * the part of them that it is for): the value at the limit and the one just beyond it, nothing there
+ * yet, all places taken, numbers at the ends of their type. What stands unchanged after a refused call
+ * is looked at in PlanBoundsTwins too.
  */
 public final class PlanBoundsEdges {
     private static final String INDEX = "IndexOutOfBoundsException";
@@ -1435,7 +1436,7 @@ public final class PlanBoundsEdges {
         terms();
         tooGreat();
         promises();
-        System.out.println(sentences + " sentences, " + wrong + " answers are not as due");
+        System.out.println(sentences + " tests by sentence, " + wrong + " answers are not as due");
         if (wrong != 0) {
             System.exit(1);
         }
