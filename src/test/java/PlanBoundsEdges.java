@@ -1250,6 +1250,9 @@ public final class PlanBoundsEdges {
         dueRight(x, 3, 6, true);
         due("one not in the table changed", () -> x.factorOf(1, 0), STATE);
         dueRun(x, 0, 1);
+        dueRight(x, 1, -1, true);
+        due("the same one told anew counts, as README.md says", () -> x.factorOf(1, 0), STATE);
+        dueRun(x, 0, 1);
         dueRight(x, 1, 9, true);
         dueRun(x, 9, 0);
         due("0 behind 1", () -> x.factorOf(1, 0), STATE);

@@ -17,6 +17,7 @@ public final class PlanBoundsModel {
         "kind 2 outside by its second line", "a column would leave", "D above 1000000", "ties among those that enter",
         "run 1 with no step left", "line of kind 2 cannot come"
     };
+    private static final int RUNS = 3000;
     private static final int[] seen = new int[NAMES.length];
 
     static final class Fraction {
@@ -566,14 +567,14 @@ public final class PlanBoundsModel {
     }
 
     public static void main(String[] args) {
-        int runs = args.length > 0 ? Integer.parseInt(args[0]) : 3000;
+        int runs = args.length > 0 ? Integer.parseInt(args[0]) : RUNS;
         for (runNumber = 0; runNumber < runs; runNumber++) {
             oneRun(runNumber);
         }
-        // A model that never meets a case proves nothing about it.
+        // A model that never meets a case proves nothing about it; fewer runs than usual may miss a rare one.
         for (int i = 0; i < seen.length; i++) {
             System.out.println("seen " + seen[i] + " times: " + NAMES[i]);
-            if (seen[i] == 0) {
+            if (seen[i] == 0 && runs >= RUNS) {
                 wrong++;
             }
         }
